@@ -1150,7 +1150,7 @@ public final class PulledCrystal {
             return grams;
         }
 
-        int want() {
+        int wideWanted() {
             return want;
         }
 
@@ -1249,7 +1249,7 @@ public final class PulledCrystal {
         }
 
         int besideWant() {
-            return Math.abs(wide - start.want());
+            return Math.abs(wide - start.wideWanted());
         }
 
         void shiftWide(int much) {
@@ -1288,7 +1288,7 @@ public final class PulledCrystal {
             desk.tell(MINUTE, rows);
             desk.tell(SEEN, wideSeen(seen));
             desk.tell(WAS, wideSeen(seen - 1));
-            desk.tell(WANT, start.want());
+            desk.tell(WANT, start.wideWanted());
             desk.tell(HEAT, heat);
             desk.tell(PULL, pull);
             desk.tell(LEFT, start.grams() == 0 ? 0 : left * 1000L / start.grams());
@@ -1434,13 +1434,13 @@ public final class PulledCrystal {
         }
 
         private boolean isBody(int row, int thin) {
-            return wideOf(row) > thin && Math.abs(wideOf(row) - start.want()) <= start.want() / 10;
+            return wideOf(row) > thin && Math.abs(wideOf(row) - start.wideWanted()) <= start.wideWanted() / 10;
         }
 
         int wanderOver(int from, int to) {
             int most = 0;
             for (int row = from; row <= to; row++) {
-                most = Math.max(most, Math.abs(wideOf(row) - start.want()));
+                most = Math.max(most, Math.abs(wideOf(row) - start.wideWanted()));
             }
             return most;
         }
@@ -1449,7 +1449,7 @@ public final class PulledCrystal {
             int many = 0;
             int side = 0;
             for (int row = from; row <= to; row++) {
-                int now = Integer.compare(wideOf(row), start.want());
+                int now = Integer.compare(wideOf(row), start.wideWanted());
                 if (now != 0) {
                     many += now == -side ? 1 : 0;
                     side = now;

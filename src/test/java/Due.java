@@ -37,6 +37,13 @@ final class Due {
         x.end(text.length());
     }
 
+    static PulledCrystal with(String furnace, String minder) {
+        PulledCrystal x = new PulledCrystal();
+        is("furnace " + furnace, furnace(x, furnace), 0);
+        is("minder " + minder, minder(x, minder), 0);
+        return x;
+    }
+
     static int furnace(PulledCrystal x, String text) {
         tape(x, text);
         return x.furnace();
@@ -45,5 +52,23 @@ final class Due {
     static int minder(PulledCrystal x, String text) {
         tape(x, text);
         return x.minder();
+    }
+
+    // One ROW of each WIDE.
+    static PulledCrystal ofWides(int want, int faults, int pull, int... wides) {
+        PulledCrystal x = new PulledCrystal();
+        StringBuilder text = new StringBuilder("wide ");
+        for (int row = 0; row < wides.length; row++) {
+            text.append(row == 0 ? "0" : "").append("+ (").append(wides[row]).append(" - wide) * (1 / (1 + (minute - ").append(row);
+            text.append(")*(minute-").append(row).append(")))");
+        }
+        is(text.toString(), furnace(x, text.toString()), 0);
+        minder(x, "pull " + pull);
+        x.begin(0, 0, 99999, want, 0, 100, 0, 900, faults);
+        x.grow(wides.length);
+        for (int row = 0; row < wides.length; row++) {
+            is("WIDE of ROW " + row, x.row(row, 0), wides[row]);
+        }
+        return x;
     }
 }
