@@ -18,6 +18,8 @@ public final class PulledCrystal {
     private static final int MOST_SHARE = 2000;
     private static final int MOST_PUT = 999999999;
     private static final long MILLION = 1000000L;
+    // Far above all parts in a million that there can be.
+    private static final long NO_LIMIT = 1000000000000000000L;
 
     // How a POT is.
     private static final int NO_POT = 0;
@@ -81,8 +83,8 @@ public final class PulledCrystal {
     private static final int AND = -21;
     private static final int OR = -22;
 
-    private final Tape tape = new Tape();
-    private final Reader reader = new Reader(tape);
+    private final Reader reader = new Reader();
+    private final Tape tape = reader.tape();
     private final Laws furnaces = new Laws(FURNACES);
     private final Laws minders = new Laws(MINDERS);
     private final Desk desk = new Desk();
@@ -744,15 +746,15 @@ public final class PulledCrystal {
 
     // Reads the TAPE as a text, up to its first FAULT.
     private static final class Reader {
-        private final Tape tape;
+        private final Tape tape = new Tape();
         private final Law draft = new Law();
         private boolean ofFurnace = false;
         private int at = 0;
         private int told = 0;
         private int found = 0;
 
-        Reader(Tape tape) {
-            this.tape = tape;
+        Tape tape() {
+            return tape;
         }
 
         int readInto(Laws laws, boolean asFurnace) {
@@ -1239,9 +1241,11 @@ public final class PulledCrystal {
             System.arraycopy(other.heats, 0, heats, 0, rows);
             System.arraycopy(other.pulls, 0, pulls, 0, rows);
             System.arraycopy(other.growns, 0, growns, 0, rows);
-            System.arraycopy(other.faulty, 0, faulty, 0, rows);
             System.arraycopy(other.went, 0, went, 0, rows * STUFFS);
             System.arraycopy(other.melt, 0, melt, 0, STUFFS);
+            for (int row = 0; row < rows; row++) {
+                faulty[row] = other.faulty[row];
+            }
         }
 
         void follow(Law minder) {
@@ -1449,11 +1453,11 @@ public final class PulledCrystal {
             int many = 0;
             int side = 0;
             for (int row = from; row <= to; row++) {
-                int now = Integer.compare(wideOf(row), start.wideWanted());
-                if (now != 0) {
-                    many += now == -side ? 1 : 0;
-                    side = now;
+                int above = wideOf(row) - start.wideWanted();
+                if (above > 0 && side < 0 || above < 0 && side > 0) {
+                    many++;
                 }
+                side = above == 0 ? side : above;
             }
             return many;
         }
@@ -1637,7 +1641,7 @@ public final class PulledCrystal {
 
         int pieces() {
             int many = 0;
-            for (int row = 0; row < rows; row = behind(row)) {
+            for (int row = 0; row < rows; row += Math.max(1, taken[row])) {
                 many += taken[row] > 0 ? 1 : 0;
             }
             return many;
@@ -1645,20 +1649,18 @@ public final class PulledCrystal {
 
         int firstRowOfPiece(int k) {
             int many = 0;
-            for (int row = 0; row < rows; row = behind(row)) {
-                if (taken[row] > 0) {
-                    if (many == k) {
-                        return row;
-                    }
-                    many++;
+            for (int row = 0; row < rows; row += Math.max(1, taken[row])) {
+                if (taken[row] > 0 && many == k) {
+                    return row;
                 }
+                many += taken[row] > 0 ? 1 : 0;
             }
             return NONE;
         }
 
         int wantOfRow(int wanted) {
-            for (int row = 0; row < rows; row = behind(row)) {
-                if (wanted < behind(row)) {
+            for (int row = 0; row < rows; row += Math.max(1, taken[row])) {
+                if (wanted >= row && wanted < row + Math.max(1, taken[row])) {
                     return taken[row] > 0 ? takers[row] : NONE;
                 }
             }
@@ -1670,11 +1672,8 @@ public final class PulledCrystal {
         }
 
         int coinsOfPieceAt(int row) {
-            return row >= 0 && row < rows && behind(row) <= rows ? most[row] - most[behind(row)] : 0;
-        }
-
-        private int behind(int row) {
-            return row >= 0 && row < rows ? row + Math.max(1, taken[row]) : rows;
+            int end = row + rowsOfPieceAt(row);
+            return row >= 0 && end <= rows ? most[row] - most[end] : 0;
         }
     }
 
@@ -1711,8 +1710,8 @@ public final class PulledCrystal {
         void gather(int stuff, int rows) {
             gathered = Math.min(rows, ROWS);
             for (int row = 0; row < gathered; row++) {
-                lows[row] = Long.MIN_VALUE;
-                highs[row] = Long.MAX_VALUE;
+                lows[row] = -NO_LIMIT;
+                highs[row] = NO_LIMIT;
             }
             for (int k = 0; k < size && k < SLICES; k++) {
                 int row = sliceRows[k];

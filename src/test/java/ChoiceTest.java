@@ -125,6 +125,17 @@ public final class ChoiceTest {
         // 9000000, 0, 27 of 990 grams: 27171717 and so on
         Due.is("of STUFF 5", x.stripes(5, 0, 4, 9000000 - 1), 4);
         Due.is("of STUFF 5", x.stripes(5, 0, 4, 9000000), 3);
+        x = Due.with("wide 0", "pull 10 + minute * 10");
+        x.stuff(0, 0, 1000);
+        x.stuff(0, 1, 500);
+        x.begin(0, 0, 1000, 70, 5, 320, 0, 900, 0);
+        x.grow(3);
+        int[] parts = {500000, 500000, 500000};
+        for (int row = 0; row < 3; row++) {
+            Due.is("parts", x.parts(0, row), parts[row]);
+        }
+        Due.is("beside one another, not together", x.stripes(0, 0, 2, 100000), 0);
+        Due.is("none", x.stripes(0, 0, 2, 0), 0);
     }
 
     private static void wrongStripes() {

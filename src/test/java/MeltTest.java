@@ -44,6 +44,23 @@ public final class MeltTest {
         Due.is("ROW 4 is gone", x.row(4, 0), -1);
         Due.is("state", x.state(), 1);
         seedStays();
+        wordsBehindMelting();
+    }
+
+    private static void wordsBehindMelting() {
+        PulledCrystal x = Due.with("wide 7", "heat pull * 10 + long / 10;pull 11 + minute if minute < 5 and heat < 777");
+        x.begin(0, 0, 99999, 500, 77, 400, 0, 900, 0);
+        x.grow(5);
+        x.melt(1);
+        Due.is("PULL of ROW 0", x.count(4), 11);
+        Due.is("HEAT of ROW 0", x.count(3), 0);
+        x.tried(0, 7, 0, 0);
+        x.grow(1);
+        Due.is("HEAT by PULL and long", x.row(1, 1), 111);
+        Due.is("PULL by minute", x.row(1, 2), 12);
+        x.melt(0);
+        x.grow(1);
+        Due.is("HEAT without PULL", x.row(0, 1), 0);
     }
 
     // The seed is as it is: what comes behind MELTING BACK is not what came at first.
@@ -207,6 +224,7 @@ public final class MeltTest {
         Due.is("left", Due.ofWides(100, 0, 5, 100, 20, 100, 20).faults(), 0);
         Due.is("left", Due.ofWides(100, 12, 5, 100, 20, 100, 20).faults(), 2);
         Due.is("left", Due.ofWides(100, 12, 5, 100, 31, 100, 30).faults(), 7);
+        Due.is("left", Due.ofWides(100, 12, 5, 30, 31, 100, 30).faults(), 2);
         Due.is("left", Due.ofWides(100, 9, 5, 100, 20, 100, 20).faults(), 0);
         x = Due.ofWides(100, 12, 5, 100, 20, 100, 20);
         x.thin(100);
@@ -231,6 +249,8 @@ public final class MeltTest {
         Due.is("the last ROW", Due.ofWides(100, 0, 10, 1000, 900, 299, 30).holds(), -2);
         Due.is("31 bears 96, not 96.1", withThin(31, Due.ofWides(100, 0, 10, 31, 900, 300, 245)).holds(), -2);
         Due.is("31 bears 96, not 96.1", withThin(31, Due.ofWides(100, 0, 10, 31, 900, 300, 265)).holds(), 3);
+        // 9, 990 and 10 grams
+        Due.is("100 bears 1000 and not itself", withThin(100, Due.ofWides(100, 0, 99, 100, 1000, 105)).holds(), -2);
         x = Due.ofWides(100, 0, 10, 1000, 30, 900, 300, 100);
         x.thin(29);
         Due.is("no NECK any more", x.holds(), -2);

@@ -103,6 +103,8 @@ public final class PotTest {
         Due.is("state", x.state(), 5);
         Due.is("minds, though ENDED", x.minds(1), true);
         x.begin(0, 0, 1000, 100, 50, 100, 0, 3, 0);
+        Due.is("PULL is 0 at first", x.count(4), 0);
+        Due.is("HEAT as begun with", x.count(3), 50);
         x.grow(1);
         Due.is("begun with minder 0", x.row(0, 2), 1);
     }

@@ -53,6 +53,24 @@ public final class TextTest {
         Due.is("swirl as a MINDER", Due.minder(x, "swirl 1"), -3);
         Due.is("furnace behind a fault", Due.furnace(x, "wide 1"), 0);
         Due.is("minder behind a fault", Due.minder(x, "pull 1"), 0);
+        nothingStaysOfOthers();
+    }
+
+    // Neither of a text with a FAULT nor of a good one is there anything in the next.
+    private static void nothingStaysOfOthers() {
+        PulledCrystal x = new PulledCrystal();
+        for (int k = 0; k < 30; k++) {
+            Due.is("faulty", Due.furnace(x, "swirl 9;late 8;gives 7;wide " + SIXTY + ";"), -2 - (1 + 8 * 148));
+        }
+        Due.is("as many VALUES again", Due.furnace(x, "late 1;wide " + SIXTY), 0);
+        Due.is("first numbers", Due.furnace(x, "gives 1;late 1;swirl 1"), 1);
+        Due.is("no numbers", Due.furnace(x, "wide minute"), 2);
+        Due.minder(x, "heat seen;pull 10");
+        x.begin(2, 0, 99999, 70, 5, 500, 0, 900, 0);
+        x.grow(3);
+        Due.is("no swirl", x.row(2, 0), 503);
+        Due.is("not late", x.row(2, 1), 501);
+        Due.is("nothing given", x.much(5, -1), 0);
     }
 
     private static void good(String text) {
@@ -113,6 +131,12 @@ public final class TextTest {
         bad("wide 1 if not", 13, 0);
         bad("wide 1 iff 1 = 1", 7, 0);
         bad("wide width", 5, 0);
+        bad("wide teen", 5, 0);
+        bad("wide seenz", 5, 0);
+        bad("wide see", 5, 0);
+        bad("mull 1", 0, 0);
+        bad("wide 1 of 1 = 1", 7, 0);
+        bad("pull want z", 10, 0);
         bad("wide swirl", 5, 0);
         bad("wide not 1", 5, 0);
         bad("wide 1.5", 6, 0);

@@ -181,6 +181,11 @@ public final class WanderTest {
         Due.is("for 2", x.best(2), 2);
         x.grow(1);
         Due.is("the MINDER stays", x.count(3), 560);
+        // from WIDE itself, so much is 0: one step above it the other one would be nearer
+        x = Due.with("wide heat - 500 if wide = 100;wide 500 - heat", "heat 500");
+        Due.minder(x, "heat 510");
+        x.begin(0, 0, 99999, 110, 0, 100, 0, 900, 0);
+        Due.is("so much 0", x.best(1), 1);
     }
 
     private static void bestByHunts() {
@@ -201,6 +206,7 @@ public final class WanderTest {
         x.begin(0, 0, 99999, 400, 0, 300, 0, 900, 0);
         Due.is("not even with 0", x.far(0, 5, 99), -2);
         Due.is("0 alone", x.far(0, 5, 100), 0);
+        Due.is("for a MINUTE", x.far(0, 1, 100), 0);
         Due.is("1 below is 101 away", x.far(0, 5, 101), 1);
         Due.is("99", x.far(0, 5, 199), 99);
         Due.is("100", x.far(0, 5, 200), 100);
