@@ -97,7 +97,7 @@ public final class ImageTest {
         for (int stuff = 0; stuff < 6; stuff++) {
             all[n++] = x.much(stuff, -1);
         }
-        for (int row = 0; row < 10; row++) {
+        for (int row = 0; row < 6; row++) {
             for (int what = 0; what < 7; what++) {
                 all[n++] = x.row(row, what);
             }

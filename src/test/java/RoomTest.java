@@ -15,7 +15,7 @@ public final class RoomTest {
         Due.tape(x, "pull 3;heat heat + 1");
         x.minder();
         ahead = threads.getThreadAllocatedBytes(Thread.currentThread().getId());
-        for (int k = 0; k < 12; k++) {
+        for (int k = 0; k < 2; k++) {
             use(x);
         }
         made = threads.getThreadAllocatedBytes(Thread.currentThread().getId()) - ahead;
