@@ -71,6 +71,21 @@ public final class TextTest {
         Due.is("no swirl", x.row(2, 0), 503);
         Due.is("not late", x.row(2, 1), 501);
         Due.is("nothing given", x.much(5, -1), 0);
+        noClauseStays();
+    }
+
+    // A shorter text has none of the CLAUSES of a longer one ahead of it.
+    private static void noClauseStays() {
+        PulledCrystal x = new PulledCrystal();
+        Due.is("longer", Due.minder(x, "pull 1 if 1 > 2;pull 9;heat 9"), 0);
+        Due.is("shorter", Due.minder(x, "pull 1 if 1 > 2"), 1);
+        Due.is("longer", Due.furnace(x, "wide 1 if 1 > 2;wide 9"), 0);
+        Due.is("shorter", Due.furnace(x, "wide 1 if 1 > 2"), 1);
+        x.begin(1, 1, 99999, 70, 5, 500, 0, 900, 0);
+        x.grow(1);
+        Due.is("no wide", x.row(0, 0), 500);
+        Due.is("no heat", x.row(0, 1), 5);
+        Due.is("no pull", x.row(0, 2), 0);
     }
 
     private static void good(String text) {
