@@ -257,7 +257,7 @@ public final class NothingHappensTest {
     // Of each number the first below and above what is taken, and those farthest away.
     private static void refusedBegins() {
         int[] good = {1, 1, 5000, 300, 9, 100, 6, 50, 7};
-        int[][] bad = {{-1, 2, MIN, MAX}, {-1, 2, MIN, MAX}, {0, 100000, -1, MAX}, {0, 10000, -1, MAX}, {-1, 1000, MIN, MAX},
+        int[][] bad = {{-1, 2, 3, 4, MIN, MAX}, {-1, 2, 3, 7, 8, MIN, MAX}, {0, 100000, -1, MAX}, {0, 10000, -1, MAX}, {-1, 1000, MIN, MAX},
             {0, 10000, -1, MAX}, {-1, MIN}, {0, 901, -1, MAX}, {-1, 1000, MIN, MAX}};
         for (int k = 0; k < 9; k++) {
             for (int n : bad[k]) {
@@ -298,7 +298,7 @@ public final class NothingHappensTest {
             still("much in the melt of STUFF " + s, -1, x -> x.much(s, -1));
             still("parts of STUFF " + s, -1, x -> x.parts(s, 0));
         }
-        for (int want : new int[] {-1, 3, 8, MIN, MAX}) {
+        for (int want : new int[] {-1, 3, 4, 7, 8, MIN, MAX}) {
             still("why of WANT " + want, -1, x -> x.why(0, want));
         }
     }

@@ -198,6 +198,10 @@ public final class WanderTest {
         Due.is("hunts of 0", x.tried(0, 2, 0, 1), 1);
         Due.is("hunts of 1", x.tried(1, 2, 0, 1), 0);
         Due.is("the fewest HUNTS", x.best(2), 1);
+        Due.minder(x, "heat 510 if minute = 0;heat 480 if minute = 1;heat 520");
+        Due.is("wander of all", x.tried(3, 2, 0, 0), 10);
+        Due.is("hunts of the last", x.tried(3, 2, 0, 1), 1);
+        Due.is("more HUNTS behind fewer", x.best(2), 1);
         Due.is("the least number", x.best(1), 0);
     }
 
